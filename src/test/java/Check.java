@@ -31,8 +31,14 @@ final class Check {
         try {
             return String.valueOf(made.answer());
         } catch (RuntimeException e) {
-            return "throws." + e.getClass().getSimpleName();
+            return (isThrownByLibrary(e) ? "library." : "throws.") + e.getClass().getSimpleName();
         }
+    }
+
+    // the program tests what it asks of the library, and throws by itself
+    private static boolean isThrownByLibrary(RuntimeException e) {
+        StackTraceElement[] trace = e.getStackTrace();
+        return trace.length > 0 && trace[0].getModuleName() != null;
     }
 
     void end(String test) {

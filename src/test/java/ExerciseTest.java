@@ -19,6 +19,7 @@ public final class ExerciseTest {
         closeDrawsInOrder();
         closeOfTheHouse();
         closeWithoutPay();
+        closeWithTheLeastPay();
         CHECK.end("ExerciseTest");
     }
 
@@ -288,17 +289,33 @@ public final class ExerciseTest {
     }
 
     private static void closeWithoutPay() {
+        for (int seed = 0; seed < 30; seed++) {
+            Strikehall x = owed(0, false);
+            x.contract(Strikehall.CALL, 9000, 5, true);
+            x.quote(1, 100, 100, 100);
+            x.order(0, 1, -1, 100);
+            x.order(5, 1, -1, 100);
+            x.order(2, 1, 3, 100);
+            x.move(9900);
+            x.seed(seed);
+            x.close();
+            owe(x, "pays nothing", 0, 0, 0);
+            CHECK.same("pays nothing: cash(4)", x.cash(4), 300000);
+            long pick = drawn(new long[] {seed}, 3);
+            x.exercise(2, 1, 1);
+            CHECK.same("no draw was made: lots(0, 1)", x.lots(0, 1), pick == 0 ? 0 : -1);
+            CHECK.same("no draw was made: lots(5, 1)", x.lots(5, 1), pick == 1 ? 0 : -1);
+            CHECK.same("no draw was made: lots(NONE, 1)", x.lots(-1, 1), pick == 2 ? 0 : -1);
+        }
+    }
+
+    private static void closeWithTheLeastPay() {
         Strikehall x = owed(0, false);
-        x.contract(Strikehall.CALL, 9900, 5, true);
-        x.quote(1, 100, 100, 100);
-        x.order(1, 1, -2, 100);
-        x.order(4, 1, -3, 100);
-        x.order(0, 1, 10, 100);
-        x.move(9900);
+        x.move(9901);
         x.close();
-        owe(x, "pays nothing", 0, 0, 0);
-        CHECK.same("pays nothing: cash(1)", x.cash(1), 400000);
-        x.exercise(0, 1, 1);
-        CHECK.same("pays nothing: no draw was made", x.lots(1, 1), -1);
+        CHECK.same("pays 1: cash(0)", x.cash(0), -1000000 + 10000);
+        CHECK.same("pays 1: cash(1)", x.cash(1), 200000 - 2000);
+        CHECK.same("pays 1: cash(4)", x.cash(4), 300000 - 3000);
+        CHECK.same("pays 1: cash(NONE)", x.cash(-1), 500000 - 5000);
     }
 }

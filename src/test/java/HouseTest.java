@@ -106,6 +106,13 @@ public final class HouseTest {
         CHECK.same("2 shares", x.worth(), 20332 - 22);
         CHECK.same("move(9990)", x.move(9990), -2 * 6666 - 4 * 10000 - 20000 + 2 * 0);
         CHECK.same("worth()", x.worth(), 20310 - 73332);
+        Strikehall y = new Strikehall();
+        y.contract(0, 9900, 0, false);
+        y.quote(0, 40, 70, 5);
+        y.order(0, 0, -1, 40);
+        CHECK.same("1 lot bought, a mark of 100000", y.worth(), 60000);
+        y.order(0, 0, 2, 70);
+        CHECK.same("1 lot sold, a mark of 100000", y.worth(), 0);
     }
 
     private static void causeIs(Strikehall x, String when, long... due) {

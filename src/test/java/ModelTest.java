@@ -26,6 +26,9 @@ public final class ModelTest {
             }
             test.compareAll("run " + run + ", at its end: ");
         }
+        for (int run = 0; run < RUNS; run++) {
+            new ModelTest(run).quotesNearFaults("quotes, run " + run + ": ");
+        }
         CHECK.end("ModelTest");
     }
 
@@ -227,5 +230,29 @@ public final class ModelTest {
         CHECK.same(at + "worth()", house.worth(), model.worth());
         CHECK.same(at + "all causes", all, house.worth());
         CHECK.same(at + "fault()", house.fault(), model.fault());
+    }
+
+    /** Contracts much alike, quoted closely, so that each fault is near without those ahead of it. */
+    private void quotesNearFaults(String at) {
+        int[] steps = new int[12];
+        int slope = pick(4);
+        for (int c = 0; c < 12; c++) {
+            int kind = pick(8) / 7;
+            int expiry = 2 + pick(6) / 5;
+            boolean isAmerican = pick(6) > 0;
+            steps[c] = kind == 0 ? pick(5) : 4 - pick(5);
+            int strike = 10000 + 10 * steps[c];
+            steps[c] = kind == 0 ? 4 - steps[c] : steps[c];
+            same(at + "contract", () -> house.contract(kind, strike, expiry, isAmerican),
+                    () -> model.contract(kind, strike, expiry, isAmerican));
+        }
+        for (int call = 0; call < 300; call++) {
+            int contract = pick(12);
+            int bid = slope * steps[contract] + pick(3);
+            int ask = bid + (pick(200) == 0 ? 0 : 1 + pick(2));
+            int size = pick(3);
+            same(at + "call " + call, () -> house.quote(contract, bid, ask, size),
+                    () -> model.quote(contract, bid, ask, size));
+        }
     }
 }

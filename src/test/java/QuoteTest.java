@@ -117,6 +117,11 @@ public final class QuoteTest {
         isQuoted(x, 0, 0, 0, 0, 0);
         CHECK.same("order of -4, nothing left", x.order(0, 0, -4, 0), 0);
         CHECK.same("kill() of what is used up", x.kill(), 0);
+        x.quote(0, 7, 9, 3);
+        x.order(0, 0, -3, 7);
+        x.order(0, 0, 2, 9);
+        isQuoted(x, 0, 7, 9, 0, 1);
+        CHECK.same("kill() of 1 left for the ask", x.kill(), 1);
     }
 
     private static void kill() {
@@ -281,6 +286,10 @@ public final class QuoteTest {
         x.quote(3, 0, 0, 0);
         CHECK.same("another one just between", x.quote(4, 61, 70, 1), 3);
         CHECK.same("one of the outer ones has no quote", x.quote(0, 10, 20, 0), 0);
+        Strikehall y = house(10100, 10200, 10000);
+        y.quote(1, 10, 20, 1);
+        y.quote(2, 90, 100, 1);
+        CHECK.same("the middle one is contract 0", y.quote(0, 61, 70, 1), 3);
         middleFaultOfPuts();
     }
 
