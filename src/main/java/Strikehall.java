@@ -120,7 +120,7 @@ public final class Strikehall {
         int killed = 0;
         for (int i = 0; i < contracts.size(); i++) {
             Contract contract = contracts.get(i);
-            if (contract.hasQuote()) {
+            if (contract.hasSomethingLeft()) {
                 killed++;
             }
             contract.takeQuoteAway();
@@ -382,7 +382,7 @@ public final class Strikehall {
         int room = Math.max(0, mostLots + contract.lotsAt(HOUSE));
         int dealt = Math.min(Math.min(lots, contract.askLeft), room);
         deal(customer, contract, dealt, contract.ask);
-        contract.useQuote(0, dealt);
+        contract.askLeft -= dealt;
         return dealt;
     }
 
@@ -393,7 +393,7 @@ public final class Strikehall {
         int room = Math.max(0, mostLots - contract.lotsAt(HOUSE));
         int dealt = Math.min(Math.min(lots, contract.bidLeft), room);
         deal(customer, contract, -dealt, contract.bid);
-        contract.useQuote(dealt, 0);
+        contract.bidLeft -= dealt;
         return dealt;
     }
 
@@ -596,33 +596,19 @@ public final class Strikehall {
             return Math.max(0, kind == CALL ? price - strike : strike - price);
         }
 
+        // a size of 0 takes the quote away: then it has no prices any more
         private void tellQuote(int newBid, int newAsk, int size) {
-            bid = newBid;
-            ask = newAsk;
+            bid = size > 0 ? newBid : 0;
+            ask = size > 0 ? newAsk : 0;
             bidLeft = size;
             askLeft = size;
-            dropUsedUp();
-        }
-
-        private void useQuote(int ofBid, int ofAsk) {
-            bidLeft -= ofBid;
-            askLeft -= ofAsk;
-            dropUsedUp();
         }
 
         private void takeQuoteAway() {
             tellQuote(0, 0, 0);
         }
 
-        // a quote ends as it is used up: its prices are not told any more
-        private void dropUsedUp() {
-            if (!hasQuote()) {
-                bid = 0;
-                ask = 0;
-            }
-        }
-
-        private boolean hasQuote() {
+        private boolean hasSomethingLeft() {
             return bidLeft > 0 || askLeft > 0;
         }
 

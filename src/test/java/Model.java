@@ -186,7 +186,7 @@ final class Model {
         Option option = option(contract);
         argument(bid >= 0 && bid <= 20000 && ask >= 0 && ask <= 20000 && size >= 0 && size <= 100);
         state(!over(option));
-        option.quote = new int[] {bid, ask, size, size};
+        option.quote = size == 0 ? new int[4] : new int[] {bid, ask, size, size};
         return fault();
     }
 
@@ -355,7 +355,7 @@ final class Model {
     int quoted(int contract, int what) {
         Option option = option(contract);
         argument(what >= 0 && what <= 3);
-        return option.quote[2] + option.quote[3] == 0 ? 0 : option.quote[what];
+        return option.quote[what];
     }
 
     int lots(int holder, int contract) {
