@@ -8,6 +8,7 @@ public final class Promise02Test {
         refusedBoth();
         whatItChanges();
         whatItLeaves();
+        allToCome();
         P.end();
     }
 
@@ -78,5 +79,21 @@ public final class Promise02Test {
         x.steps(2, 9);
         P.same("of one that is over, cause(5)", x.cause(5), 0);
         P.same("of one that is over, mark", x.mark(0), 0);
+    }
+
+    /** Each day to come goes by the steps of now, those that a contract was made with are gone. */
+    private static void allToCome() {
+        P.says("All to come goes by steps and dividends as they are told now");
+        Strikehall x = new Strikehall();
+        x.steps(10, 1);
+        x.contract(Strikehall.CALL, 10000, 3, false);
+        x.close();
+        x.steps(2, 2);
+        // up up pays 40, by a quarter
+        part("two days ahead", x, 0, 10, 1);
+        x.close();
+        x.steps(1, 4);
+        // up pays 10, by 4 of 5
+        part("a day ahead", x, 0, 8, 1);
     }
 }

@@ -14,6 +14,8 @@ public final class Promise06Test {
         refusedArguments();
         refusedOver();
         onTheDayOfExpiry();
+        bothSides();
+        severalExceptions();
         P.end();
     }
 
@@ -145,5 +147,20 @@ public final class Promise06Test {
             x.contract(Strikehall.CALL, 10000, 200, false);
             return x;
         }, x -> x.quote(0, 6, 6, 1), 1);
+    }
+
+    private static void bothSides() {
+        P.says("The house quotes a contract: a bid and an ask, in cents, and a size for both");
+        Strikehall x = Houses.quoted(5, 6, 3);
+        P.same("all of the ask", x.order(0, 0, 4, 6), 3);
+        P.same("all of the bid nonetheless", x.order(0, 0, -4, 5), 3);
+        isQuoted("used up, its prices are told nonetheless", x, 0, 5, 6, 0, 0);
+    }
+
+    private static void severalExceptions() {
+        P.says("if several exceptions apply, the one that its throws clause names first is thrown");
+        P.refused("no such contract, all out of range", Houses::busy, Promise.INDEX, x -> x.quote(-1, -1, 20001, 101));
+        P.refused("over, all out of range", Houses::busy, Promise.ARGUMENT, x -> x.quote(2, -1, 20001, 101));
+        P.refused("over alone", Houses::busy, Promise.STATE, x -> x.quote(2, 0, 20000, 100));
     }
 }

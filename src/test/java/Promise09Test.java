@@ -19,6 +19,7 @@ public final class Promise09Test {
         refusedIndex();
         refusedArguments();
         refusedOver();
+        severalExceptions();
         P.end();
     }
 
@@ -227,5 +228,13 @@ public final class Promise09Test {
         P.refused("to buy", Houses::busy, Promise.STATE, x -> x.order(0, 2, 1, 20000));
         P.refused("to sell", Houses::busy, Promise.STATE, x -> x.order(0, 2, -1, 0));
         P.refused("by one who had lots", Houses::busy, Promise.STATE, x -> x.order(3, 2, 100, 0));
+    }
+
+    private static void severalExceptions() {
+        P.says("if several exceptions apply, the one that its throws clause names first is thrown");
+        P.refused("no such customer, all besides", Houses::busy, Promise.INDEX, x -> x.order(6, 2, 0, -1));
+        P.refused("no such contract, all besides", Houses::busy, Promise.INDEX, x -> x.order(5, 5, 0, -1));
+        P.refused("over, all besides", Houses::busy, Promise.ARGUMENT, x -> x.order(5, 2, 0, -1));
+        P.refused("over alone", Houses::busy, Promise.STATE, x -> x.order(5, 2, -100, 20000));
     }
 }

@@ -17,6 +17,8 @@ public final class Promise12Test {
         refusedFewer();
         refusedOver();
         refusedNotToday();
+        severalExceptions();
+        whoOwesPays();
         P.end();
     }
 
@@ -212,5 +214,30 @@ public final class Promise12Test {
         P.says("or is not AMERICAN and its expiry is not today");
         P.refused("two days ahead", Houses::busy, Promise.STATE, x -> x.exercise(5, 1, 1));
         P.refused("a day ahead", () -> owed(1, false), Promise.STATE, x -> x.exercise(0, 0, 1));
+    }
+
+    private static void severalExceptions() {
+        P.says("if several exceptions apply, the one that its throws clause names first is thrown");
+        P.refused("no such holder, all besides", Houses::busy, Promise.INDEX, x -> x.exercise(-2, 2, 1001));
+        P.refused("no such contract, all besides", Houses::busy, Promise.INDEX, x -> x.exercise(-1, 5, 0));
+        P.refused("fewer, over, out of range", Houses::busy, Promise.ARGUMENT, x -> x.exercise(-1, 2, 1001));
+        P.refused("fewer, not today, out of range", Houses::busy, Promise.ARGUMENT, x -> x.exercise(2, 1, 0));
+        P.refused("fewer, over", Houses::busy, Promise.STATE, x -> x.exercise(-1, 2, 1000));
+        P.refused("fewer, not today", Houses::busy, Promise.STATE, x -> x.exercise(2, 1, 1000));
+    }
+
+    private static void whoOwesPays() {
+        P.says("who owes it pays");
+        Strikehall x = owed(5, true);
+        x.exercise(0, 0, 10);
+        P.same("10 lots that pay 100, cash(0)", x.cash(0), -1000000 + 1000000);
+        P.same("2 owed, cash(1)", x.cash(1), 200000 - 200000);
+        P.same("3 owed, cash(4)", x.cash(4), 300000 - 300000);
+        P.same("5 owed, cash(NONE)", x.cash(-1), 500000 - 500000);
+        Strikehall y = owed(5, true);
+        y.move(9900);
+        y.exercise(0, 0, 10);
+        P.same("10 lots that pay nothing, cash(0)", y.cash(0), -1000000);
+        P.same("they are gone, lots(1, 0)", y.lots(1, 0), 0);
     }
 }

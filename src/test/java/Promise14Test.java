@@ -82,31 +82,30 @@ public final class Promise14Test {
             P.same("strike " + due[0] + ", lots(0, 0)", x.lots(0, 0), 0);
             P.same("strike " + due[0] + ", lots(NONE, 0)", x.lots(-1, 0), 0);
         }
-        P.same("what pays nothing makes no draw", paysNothingThenDraws(), paysSomethingThenDraws());
+        whatPaysNothingMakesNoDraw();
     }
 
-    /** The seed is as it was: 0 of 2, the first one, is customer 1. */
-    private static int paysNothingThenDraws() {
-        Strikehall x = holding(10000, 0);
-        return drawsThen(x);
-    }
-
-    private static int paysSomethingThenDraws() {
-        Strikehall x = holding(9900, 0);
-        x.exercise(0, 0, 2);
-        x.seed(0);
-        return drawsThen(x);
-    }
-
-    private static int drawsThen(Strikehall x) {
+    /** Customers 1 to 3 owe a lot each: of 3 the first draw is 0, the second 0, the third 1. */
+    private static Strikehall holdingAnother(int strike) {
+        Strikehall x = holding(strike, 0);
         x.contract(Strikehall.CALL, 9000, 5, true);
         x.quote(1, 5, 6, 100);
         x.order(1, 1, -1, 5);
         x.order(2, 1, -1, 5);
-        x.order(3, 1, 2, 6);
+        x.order(3, 1, -1, 5);
+        x.order(4, 1, 3, 6);
         x.close();
-        x.exercise(3, 1, 1);
-        return 10 * x.lots(1, 1) + x.lots(2, 1);
+        x.exercise(4, 1, 1);
+        return x;
+    }
+
+    private static void whatPaysNothingMakesNoDraw() {
+        Strikehall x = holdingAnother(10000);
+        P.same("2 lots that pay nothing make no draw, lots(1, 1)", x.lots(1, 1), 0);
+        P.same("2 lots that pay nothing make no draw, lots(2, 1)", x.lots(2, 1), -1);
+        Strikehall y = holdingAnother(9999);
+        P.same("2 lots that pay 1 make two, lots(1, 1)", y.lots(1, 1), -1);
+        P.same("2 lots that pay 1 make two, lots(2, 1)", y.lots(2, 1), 0);
     }
 
     private static void notices() {

@@ -13,6 +13,7 @@ public final class Promise15Test {
         belowZero();
         farthest();
         over();
+        atThePriceOfThen();
         P.end();
     }
 
@@ -185,5 +186,19 @@ public final class Promise15Test {
         for (int c = 0; c < 12; c++) {
             part("on day 200, contract " + c, y, c, 0, 1);
         }
+    }
+
+    private static void atThePriceOfThen() {
+        P.says("Its value: at its expiry what it pays at the price of then");
+        Strikehall x = new Strikehall();
+        x.contract(Strikehall.CALL, 10000, 1, false);
+        part("a day ahead", x, 0, 50, 1);
+        x.move(10051);
+        // up it pays 151, down nothing
+        part("a day ahead, moved", x, 0, 151, 2);
+        x.close();
+        part("at its expiry", x, 0, 51, 1);
+        x.move(10049);
+        part("at its expiry, moved", x, 0, 49, 1);
     }
 }

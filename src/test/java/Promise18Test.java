@@ -10,6 +10,7 @@ public final class Promise18Test {
         third();
         thirdJustBetween();
         fourth();
+        numbersDoNotMatter();
         lowestFirst();
         bothSizes();
         over();
@@ -150,6 +151,28 @@ public final class Promise18Test {
         quoted("both are not AMERICAN", y, 0, 60, 70, 0);
         quoted("both are not AMERICAN", y, 1, 30, 40, 0);
         quoted("the later one alone is AMERICAN", y, 2, 30, 40, 0);
+    }
+
+    private static void numbersDoNotMatter() {
+        P.says("looked for among contracts");
+        Strikehall second = calls(false, 10100, 10000);
+        quoted("the higher one", second, 0, 41, 50, 0);
+        quoted("2, contract 0 is the higher one", second, 1, 30, 40, 2);
+        int[][] orders = {{0, 1, 2}, {0, 2, 1}, {1, 0, 2}, {1, 2, 0}, {2, 0, 1}, {2, 1, 0}};
+        for (int[] order : orders) {
+            Strikehall third = calls(false, 10000 + 100 * order[0], 10000 + 100 * order[1], 10000 + 100 * order[2]);
+            for (int c = 0; c < 3; c++) {
+                // the bids are 90, 61, 10, by rising strikes, the asks 100, 70, 20
+                int place = order[c];
+                third.quote(c, place == 0 ? 90 : place == 1 ? 61 : 10, place == 0 ? 100 : place == 1 ? 70 : 20, 1);
+            }
+            P.same("3, strikes in any order", third.fault(), 3);
+        }
+        Strikehall fourth = new Strikehall();
+        fourth.contract(Strikehall.PUT, 10000, 6, true);
+        fourth.contract(Strikehall.PUT, 10000, 5, true);
+        quoted("the later one", fourth, 0, 30, 40, 0);
+        quoted("4, contract 0 is the later one", fourth, 1, 41, 50, 4);
     }
 
     private static void lowestFirst() {

@@ -8,6 +8,7 @@ public final class Promise21Test {
         refused();
         much();
         thousandths();
+        customers();
         P.end();
     }
 
@@ -63,5 +64,13 @@ public final class Promise21Test {
         P.same("a cost of 1, cash(NONE)", x.cash(-1), -10000001);
         x.hedge(-1, 1);
         P.same("a cost of 1, to sell, cash(NONE)", x.cash(-1), -2);
+    }
+
+    private static void customers() {
+        P.says("Customers are 0 to 5");
+        P.answers("the first", Houses::busy, x -> x.cash(0), -1200000 - 280000 + 200000);
+        P.answers("the last", Houses::busy, x -> x.cash(5), -550000 + 160000);
+        P.refused("a seventh", Houses::busy, Promise.INDEX, x -> x.cash(6));
+        P.refused("one below the house", Houses::busy, Promise.INDEX, x -> x.cash(-2));
     }
 }

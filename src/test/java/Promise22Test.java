@@ -9,6 +9,7 @@ public final class Promise22Test {
         over();
         theMost();
         theLeast();
+        askingChangesNothing();
         P.end();
     }
 
@@ -92,5 +93,15 @@ public final class Promise22Test {
         P.says("its lots times their marks");
         P.same("the least", with(-10000, 100, 20000).worth(), -112000L * 20000000L);
         P.same("at 0", with(-10000, 100, 0).worth(), 0);
+    }
+
+    private static void askingChangesNothing() {
+        P.says("Steps, dividends, contracts, quotes, orders, notices and days come by calls; values, faults, positions, "
+                + "risks and causes are asked.");
+        P.alike("asked", Houses::busy, () -> {
+            Strikehall x = Houses.busy();
+            Snapshot.of(x, Houses.BUSY_CONTRACTS);
+            return x;
+        });
     }
 }
