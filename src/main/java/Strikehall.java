@@ -149,6 +149,7 @@ public final class Strikehall {
         checkNotOver(ordered);
         long before = worthNow();
         int dealt = lots > 0 ? buy(customer, ordered, lots, limit) : sell(customer, ordered, -lots, limit);
+        ordered.endQuoteUsedUp();
         addProfit(BY_ORDERS, worthNow() - before);
         return dealt;
     }
@@ -606,6 +607,13 @@ public final class Strikehall {
 
         private void takeQuoteAway() {
             tellQuote(0, 0, 0);
+        }
+
+        // used up is an end of a quote as taken away is: then it has no prices any more
+        private void endQuoteUsedUp() {
+            if (!hasSomethingLeft()) {
+                takeQuoteAway();
+            }
         }
 
         private boolean hasSomethingLeft() {

@@ -230,6 +230,9 @@ final class Model {
             pay(customer, -1, 1000L * asked * sign);
             dealt++;
         }
+        if (option.quote[2] + option.quote[3] == 0) {
+            option.quote = new int[4];
+        }
         causes[0] += worth() - before;
         return dealt;
     }

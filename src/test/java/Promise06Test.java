@@ -154,7 +154,7 @@ public final class Promise06Test {
         Strikehall x = Houses.quoted(5, 6, 3);
         P.same("all of the ask", x.order(0, 0, 4, 6), 3);
         P.same("all of the bid nonetheless", x.order(0, 0, -4, 5), 3);
-        isQuoted("used up, its prices are told nonetheless", x, 0, 5, 6, 0, 0);
+        isQuoted("used up, it is no quote any more", x, 0, 0, 0, 0, 0);
     }
 
     private static void severalExceptions() {

@@ -55,8 +55,8 @@ public final class Promise07Test {
         x.order(0, 0, -1, 5);
         x.order(0, 0, 1, 6);
         P.same("none", x.kill(), 0);
-        P.same("one that was used up is taken away too, its bid", x.quoted(0, 0), 0);
-        P.same("one that was used up is taken away too, its ask", x.quoted(0, 1), 0);
+        P.same("one that was used up has no bid", x.quoted(0, 0), 0);
+        P.same("one that was used up has no ask", x.quoted(0, 1), 0);
     }
 
     private static void takenAway() {

@@ -124,6 +124,8 @@ public final class Promise09Test {
         P.same("used up, to sell", x.order(0, 0, -1, 0), 0);
         P.same("nothing is left for the bid", x.quoted(0, 2), 0);
         P.same("nothing is left for the ask", x.quoted(0, 3), 0);
+        P.same("no bid", x.quoted(0, 0), 0);
+        P.same("no ask", x.quoted(0, 1), 0);
         x.quote(0, 45, 60, 1);
         P.same("told anew", x.order(0, 0, 2, 60), 1);
     }

@@ -61,18 +61,81 @@ public final class Promise19Test {
         isQuoted("quoted again", x, 46, 61, 8, 8);
     }
 
-    /** What is used up was told nonetheless, and was not taken away: its prices are still told. */
+    /** Used up on both sides, a quote is none any more; with something left on one side it stands. */
     private static void usedUp() {
-        P.says("what is left of the size for the bid");
+        P.says("a quote is firm till it is told anew, taken away, or used up");
+        usedUpTheAskFirst();
+        usedUpTheBidFirst();
+        usedUpAlone();
+        notUsedUpByTheLimit();
+        P.alike("used up with nothing else behind it, or taken away", () -> boughtAndSold(3), () -> {
+            Strikehall x = boughtAndSold(4);
+            x.quote(0, 45, 60, 0);
+            return x;
+        });
+        P.alike("it takes no part in faults", () -> {
+            Strikehall x = Houses.quoted(60, 60, 1);
+            x.order(0, 0, 1, 60);
+            x.order(0, 0, -1, 60);
+            return x;
+        }, Houses::one);
+    }
+
+    private static Strikehall boughtAndSold(int size) {
+        Strikehall x = Houses.quoted(45, 60, size);
+        x.order(0, 0, 3, 60);
+        x.order(1, 0, -3, 45);
+        return x;
+    }
+
+    private static void usedUpTheAskFirst() {
         Strikehall x = Houses.quoted(45, 60, 2);
         x.order(0, 0, 2, 60);
         isQuoted("nothing left for the ask", x, 45, 60, 2, 0);
+        x.order(0, 0, 1, 20000);
+        isQuoted("nothing left for the ask, nothing dealt", x, 45, 60, 2, 0);
         x.order(0, 0, -1, 45);
-        isQuoted("nothing left for the ask", x, 45, 60, 1, 0);
-        x.order(0, 0, -1, 45);
-        isQuoted("nothing left of both", x, 45, 60, 0, 0);
-        x.kill();
-        isQuoted("taken away then", x, 0, 0, 0, 0);
+        isQuoted("1 left for the bid", x, 45, 60, 1, 0);
+        x.order(0, 0, -2, 45);
+        isQuoted("nothing left of both", x, 0, 0, 0, 0);
+        x.quote(0, 44, 59, 1);
+        isQuoted("told anew", x, 44, 59, 1, 1);
+    }
+
+    private static void usedUpTheBidFirst() {
+        Strikehall x = Houses.quoted(45, 60, 100);
+        x.limit(1000);
+        x.order(3, 0, -100, 45);
+        isQuoted("nothing left for the bid", x, 45, 60, 0, 100);
+        x.order(3, 0, -1, 0);
+        isQuoted("nothing left for the bid, nothing dealt", x, 45, 60, 0, 100);
+        x.order(4, 0, 99, 60);
+        isQuoted("1 left for the ask", x, 45, 60, 0, 1);
+        x.order(5, 0, 1, 59);
+        isQuoted("1 left for the ask, the limit was less", x, 45, 60, 0, 1);
+        x.order(5, 0, 1, 60);
+        isQuoted("nothing left of both", x, 0, 0, 0, 0);
+    }
+
+    private static void usedUpAlone() {
+        Strikehall x = Houses.quoted(45, 60, 1);
+        x.contract(Strikehall.CALL, 10000, 2, false);
+        x.quote(1, 46, 61, 1);
+        x.order(0, 1, 1, 61);
+        x.order(0, 1, -1, 46);
+        isQuoted("another one is used up", x, 45, 60, 1, 1);
+        P.same("the other one's bid", x.quoted(1, 0), 0);
+        P.same("the other one's ask", x.quoted(1, 1), 0);
+    }
+
+    private static void notUsedUpByTheLimit() {
+        Strikehall x = Houses.quoted(45, 60, 5);
+        x.limit(4);
+        x.order(0, 0, 5, 60);
+        isQuoted("1 left for the ask, the limit of the house does not let it", x, 45, 60, 5, 1);
+        x.limit(0);
+        x.order(0, 0, -5, 45);
+        isQuoted("1 left of each", x, 45, 60, 1, 1);
     }
 
     private static void over() {

@@ -114,8 +114,10 @@ public final class QuoteTest {
         CHECK.same("order of -4", x.order(0, 0, -4, 7), 4);
         isQuoted(x, 0, 7, 9, 1, 0);
         CHECK.same("order of -4, of 1 left", x.order(0, 0, -4, 7), 1);
-        isQuoted(x, 0, 7, 9, 0, 0);
+        isQuoted(x, 0, 0, 0, 0, 0);
         CHECK.same("order of -4, nothing left", x.order(0, 0, -4, 0), 0);
+        CHECK.same("order of 4, nothing left", x.order(0, 0, 4, 20000), 0);
+        isQuoted(x, 0, 0, 0, 0, 0);
         CHECK.same("kill() of what is used up", x.kill(), 0);
         x.quote(0, 7, 9, 3);
         x.order(0, 0, -3, 7);
