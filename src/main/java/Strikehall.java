@@ -516,7 +516,8 @@ public final class Strikehall {
     private boolean hasMiddleFault() {
         for (int i = 0; i < contracts.size(); i++) {
             for (int j = 0; j < contracts.size(); j++) {
-                if (isStrikePair(contracts.get(i), contracts.get(j)) && hasMiddleFaultWith(contracts.get(i), contracts.get(j))) {
+                if (isStrikePair(contracts.get(i), contracts.get(j))
+                        && hasMiddleFaultWith(contracts.get(i), contracts.get(j))) {
                     return true;
                 }
             }
